@@ -51,7 +51,6 @@ public final class LineSetter {
     private final Paragraph paragraph;
     private final FontReader fontReader;
     private final HyphenReader hyphenReader;
-    private final BreakFinder breakFinder;
     private final Chooser chooser;
     private final Line asked;
     private Font fontNow;
@@ -71,7 +70,6 @@ public final class LineSetter {
         paragraph = new Paragraph();
         fontReader = new FontReader(tape);
         hyphenReader = new HyphenReader(tape);
-        breakFinder = new BreakFinder();
         chooser = new Chooser();
         asked = new Line();
         fontNow = new Font();
@@ -162,11 +160,12 @@ public final class LineSetter {
         if (paragraph.length == 0) {
             throw new IllegalStateException("there is no paragraph");
         }
-        breakFinder.mark(paragraph, hyphens == 1 ? tableNow : null);
-        if (breakFinder.marked() > BREAK_LIMIT) {
+        Breaks breaks = settingSpare.breaks;
+        breaks.mark(paragraph, hyphens == 1 ? tableNow : null);
+        if (breaks.marked() > BREAK_LIMIT) {
             throw new IndexOutOfBoundsException("too many breaks");
         }
-        breakFinder.fill(settingSpare.breaks, paragraph, fontNow);
+        breaks.fill(paragraph.sizes, fontNow);
         settingSpare.shape(width, indent, align);
         chooser.choose(settingSpare, tolerance);
         Setting before = settingNow;
@@ -400,6 +399,33 @@ public final class LineSetter {
         int byteAt(int i) {
             return i >= 0 && i < length && i < cells.length ? cells[i] & 255 : -1;
         }
+
+        boolean holds(String name, int from) {
+            for (int i = 0; i < name.length(); i++) {
+                if (byteAt(from + i) != name.charAt(i)) {
+                    return false;
+                }
+            }
+            return true;
+        }
+
+        /** The first place from there on that has no blank: the length, if all are. */
+        int behindBlanks(int from) {
+            int i = from;
+            while (i < length && isBlank(byteAt(i))) {
+                i++;
+            }
+            return i;
+        }
+
+        /** The first place from there on that has a blank: the length, if none has. */
+        int behindWord(int from) {
+            int i = from;
+            while (i < length && !isBlank(byteAt(i))) {
+                i++;
+            }
+            return i;
+        }
     }
 
     /** Numbers told for pairs of bytes, in one chain for each first byte. */
@@ -623,9 +649,7 @@ public final class LineSetter {
         }
 
         private void skipBlanks() {
-            while (position < text.length && isBlank(text.byteAt(position))) {
-                position++;
-            }
+            position = text.behindBlanks(position);
         }
 
         private boolean breakHere() {
@@ -634,17 +658,11 @@ public final class LineSetter {
         }
 
         private boolean takeName(String name) {
-            int length = name.length();
-            for (int i = 0; i < length; i++) {
-                if (text.byteAt(position + i) != name.charAt(i)) {
-                    return false;
-                }
-            }
-            int behind = text.byteAt(position + length);
-            if (isSmallLetter(behind) || isDigit(behind)) {
+            int behind = text.byteAt(position + name.length());
+            if (!text.holds(name, position) || isSmallLetter(behind) || isDigit(behind)) {
                 return false;
             }
-            position += length;
+            position += name.length();
             return true;
         }
 
@@ -920,14 +938,8 @@ public final class LineSetter {
 
         /** Behind the last word both ends of the word are the text's length, which is where something is missing. */
         private void nextWord() {
-            wordFrom = wordTo;
-            while (wordFrom < text.length && isBlank(text.byteAt(wordFrom))) {
-                wordFrom++;
-            }
-            wordTo = wordFrom;
-            while (wordTo < text.length && !isBlank(text.byteAt(wordTo))) {
-                wordTo++;
-            }
+            wordFrom = text.behindBlanks(wordTo);
+            wordTo = text.behindWord(wordFrom);
         }
 
         private boolean readEntry(HyphenTable table) {
@@ -942,15 +954,7 @@ public final class LineSetter {
         }
 
         private boolean isEndsName() {
-            if (wordTo - wordFrom != ENDS_NAME.length()) {
-                return false;
-            }
-            for (int i = 0; i < ENDS_NAME.length(); i++) {
-                if (text.byteAt(wordFrom + i) != ENDS_NAME.charAt(i)) {
-                    return false;
-                }
-            }
-            return true;
+            return wordTo - wordFrom == ENDS_NAME.length() && text.holds(ENDS_NAME, wordFrom);
         }
 
         private boolean readEnds(HyphenTable table) {
@@ -1106,11 +1110,15 @@ public final class LineSetter {
     }
 
     /**
-     * The BREAKS of what was SET, with a copy of its text. All sums go from the beginning up to and
+     * The BREAKS of what was SET, with a copy of its text. First it is found where they are, so that
+     * too many can be refused, then what lies between them. All sums go from the beginning up to and
      * with the BREAK; number 0 is the beginning, where all of them are 0.
      */
     private static final class Breaks {
         final byte[] text;
+        private int textLength;
+        /** The kind of BREAK that has as many bytes ahead as the index says. */
+        private final int[] marks;
         int last;
         final int[] kinds;
         final int[] aheads;
@@ -1124,6 +1132,8 @@ public final class LineSetter {
 
         Breaks() {
             text = new byte[TEXT_LIMIT];
+            textLength = 0;
+            marks = new int[TEXT_LIMIT + 1];
             last = 0;
             kinds = new int[BREAK_LIMIT + 1];
             aheads = new int[BREAK_LIMIT + 1];
@@ -1136,16 +1146,65 @@ public final class LineSetter {
             widest = 0;
         }
 
-        void copyText(Paragraph paragraph) {
-            System.arraycopy(paragraph.bytes, 0, text, 0, paragraph.length);
+        /** Without a table no HYPHENS are marked. */
+        void mark(Paragraph paragraph, HyphenTable table) {
+            textLength = paragraph.length;
+            System.arraycopy(paragraph.bytes, 0, text, 0, textLength);
+            Arrays.fill(marks, NO_BREAK);
+            for (int i = 0; i < textLength; i++) {
+                if (text[i] == BLANK) {
+                    marks[i] = GLUE;
+                } else if (text[i] == MINUS && i + 1 < textLength && text[i + 1] != BLANK) {
+                    marks[i + 1] = DASH;
+                }
+            }
+            if (table != null) {
+                markHyphens(table);
+            }
+            marks[textLength] = END;
+        }
+
+        private void markHyphens(HyphenTable table) {
+            int from = 0;
+            for (int i = 0; i <= textLength; i++) {
+                if (i == textLength || !isLetter(text[i])) {
+                    table.markPlaces(text, from, i, marks);
+                    from = i + 1;
+                }
+            }
+        }
+
+        int marked() {
+            int sum = 0;
+            for (int i = 0; i <= textLength; i++) {
+                if (marks[i] != NO_BREAK) {
+                    sum++;
+                }
+            }
+            return sum;
+        }
+
+        void fill(int[] sizes, Font font) {
             last = 0;
             widest = 0;
+            int from = 0;
+            for (int i = 1; i <= textLength && i <= sizes.length; i++) {
+                if (marks[i] != NO_BREAK) {
+                    int hyphenWidth = marks[i] == HYPHEN ? font.byteWidth(MINUS, sizes[i - 1]) : 0;
+                    addBreak(marks[i], i, font.partWidth(text, sizes, from, i), hyphenWidth);
+                    from = i;
+                    if (marks[i] == GLUE && i < sizes.length) {
+                        addGlue(font.byteWidth(BLANK, sizes[i]));
+                        from = i + 1;
+                    }
+                }
+            }
         }
 
         /** The sums begin as those of the BREAK before and grow by what lies between. */
-        boolean add(int kind, int ahead, long partWidth, int hyphenWidth) {
+        private void addBreak(int kind, int ahead, long partWidth, int hyphenWidth) {
             if (last >= BREAK_LIMIT) {
-                return false;
+                return;
             }
             last++;
             kinds[last] = kind;
@@ -1157,10 +1216,9 @@ public final class LineSetter {
             stretchSums[last] = stretchSums[last - 1];
             shrinkSums[last] = shrinkSums[last - 1];
             widest = Math.max(widest, partWidth + hyphenWidth);
-            return true;
         }
 
-        void addGlue(int glueWidth) {
+        private void addGlue(int glueWidth) {
             glueCounts[last]++;
             glueSums[last] += glueWidth;
             stretchSums[last] += glueWidth / 2;
@@ -1188,77 +1246,6 @@ public final class LineSetter {
                 }
             }
             return from;
-        }
-    }
-
-    /** Finds the BREAKS of THE PARAGRAPH: first where they are, so that too many can be refused, then what they hold. */
-    private static final class BreakFinder {
-        /** The kind of BREAK that has as many bytes ahead as the index says. */
-        private final int[] marks;
-
-        private int length;
-
-        BreakFinder() {
-            marks = new int[TEXT_LIMIT + 1];
-            length = 0;
-        }
-
-        /** Without a table no HYPHENS are marked. */
-        void mark(Paragraph paragraph, HyphenTable table) {
-            length = paragraph.length;
-            Arrays.fill(marks, NO_BREAK);
-            for (int i = 0; i < length; i++) {
-                if (paragraph.bytes[i] == BLANK) {
-                    marks[i] = GLUE;
-                } else if (isDash(paragraph, i)) {
-                    marks[i + 1] = DASH;
-                }
-            }
-            if (table != null) {
-                markHyphens(paragraph, table);
-            }
-            marks[length] = END;
-        }
-
-        private boolean isDash(Paragraph paragraph, int i) {
-            return paragraph.bytes[i] == MINUS && i + 1 < length && paragraph.bytes[i + 1] != BLANK;
-        }
-
-        private void markHyphens(Paragraph paragraph, HyphenTable table) {
-            int from = 0;
-            for (int i = 0; i <= length; i++) {
-                if (i == length || !isLetter(paragraph.bytes[i])) {
-                    table.markPlaces(paragraph.bytes, from, i, marks);
-                    from = i + 1;
-                }
-            }
-        }
-
-        int marked() {
-            int sum = 0;
-            for (int i = 0; i <= length; i++) {
-                if (marks[i] != NO_BREAK) {
-                    sum++;
-                }
-            }
-            return sum;
-        }
-
-        void fill(Breaks breaks, Paragraph paragraph, Font font) {
-            breaks.copyText(paragraph);
-            int from = 0;
-            for (int i = 1; i <= length; i++) {
-                if (marks[i] != NO_BREAK) {
-                    long partWidth = font.partWidth(paragraph.bytes, paragraph.sizes, from, i);
-                    int hyphenWidth = marks[i] == HYPHEN ? font.byteWidth(MINUS, paragraph.sizes[i - 1]) : 0;
-                    breaks.add(marks[i], i, partWidth, hyphenWidth);
-                    from = i;
-                    if (marks[i] == GLUE) {
-                        breaks.addGlue(font.byteWidth(BLANK, paragraph.sizes[i]));
-                        from = i + 1;
-                    }
-                }
-            }
         }
     }
 
@@ -1382,7 +1369,8 @@ public final class LineSetter {
             return partsAndGlues(line.from, line.to) - line.shrink > line.room;
         }
 
-        long costOf(Line line, int gradeBefore) {
+        /** All of the COST but what hangs on the CLASS of the line before. */
+        long costAlone(Line line) {
             long cost = (10L + line.badness) * (10L + line.badness);
             boolean partedBefore = line.from > 0 && breaks.isParted(line.from);
             if (breaks.isParted(line.to)) {
@@ -1391,13 +1379,14 @@ public final class LineSetter {
             } else if (line.toEnd && partedBefore) {
                 cost += PARTED_AHEAD_OF_END_COST;
             }
-            if (Math.abs(line.grade - gradeBefore) > 1) {
-                cost += GRADE_COST;
-            }
             if (line.tooLong) {
                 cost += TOO_LONG_COST + line.natural - line.shrink - line.room;
             }
             return cost;
+        }
+
+        long costBehind(int gradeBefore, Line line) {
+            return Math.abs(line.grade - gradeBefore) > 1 ? GRADE_COST : 0;
         }
 
         /** Where the line's first WORD begins. */
@@ -1468,7 +1457,7 @@ public final class LineSetter {
                 if (!line.isAllowed(taken)) {
                     return -1;
                 }
-                sum += costOf(line, grade);
+                sum += costAlone(line) + costBehind(grade, line);
                 grade = line.grade;
                 from = to;
             }
@@ -1488,35 +1477,29 @@ public final class LineSetter {
         private final int[] breaksBefore;
         private final int[] gradesBefore;
         private final Line line;
-        private Setting setting;
-        private int taken;
 
         Chooser() {
             costs = new long[STATES];
             breaksBefore = new int[STATES];
             gradesBefore = new int[STATES];
             line = new Line();
-            setting = null;
-            taken = 0;
         }
 
-        void choose(Setting target, int tolerance) {
-            setting = target;
-            if (!finds(tolerance) && !finds(WORST_BADNESS)) {
-                finds(LONG_LINES_TAKEN);
+        void choose(Setting setting, int tolerance) {
+            if (!findsRow(setting, tolerance) && !findsRow(setting, WORST_BADNESS)) {
+                findsRow(setting, LONG_LINES_TAKEN);
             }
-            target.taken = taken;
-            keepRow(target);
+            keepRow(setting);
         }
 
-        private boolean finds(int tolerance) {
-            taken = tolerance;
+        private boolean findsRow(Setting setting, int taken) {
+            setting.taken = taken;
             int last = setting.breaks.last;
             Arrays.fill(costs, 0, (last + 1) * GRADES, NOT_REACHED);
             costs[FIRST_GRADE] = 0;
             for (int from = 0; from < last; from++) {
                 if (isReached(from)) {
-                    goOnFrom(from, last);
+                    goOnFrom(from, setting);
                 }
             }
             return isReached(last);
@@ -1526,23 +1509,24 @@ public final class LineSetter {
             return bestGrade(b) >= 0;
         }
 
-        private void goOnFrom(int from, int last) {
-            for (int to = from + 1; to <= last; to++) {
+        private void goOnFrom(int from, Setting setting) {
+            for (int to = from + 1; to <= setting.breaks.last; to++) {
                 setting.measure(line, from, to);
-                if (line.isAllowed(taken)) {
-                    addLine();
+                if (line.isAllowed(setting.taken)) {
+                    addLine(setting);
                 } else if (line.tooLong && setting.isTooLongUnparted(line)) {
                     return;
                 }
             }
         }
 
-        private void addLine() {
+        private void addLine(Setting setting) {
+            long alone = setting.costAlone(line);
             int state = line.to * GRADES + line.grade;
             for (int grade = 0; grade < GRADES; grade++) {
                 long before = costs[line.from * GRADES + grade];
                 if (before != NOT_REACHED) {
-                    long cost = before + setting.costOf(line, grade);
+                    long cost = before + alone + setting.costBehind(grade, line);
                     if (isBetter(state, cost, grade)) {
                         costs[state] = cost;
                         breaksBefore[state] = line.from;
@@ -1585,20 +1569,20 @@ public final class LineSetter {
             return breaksBefore[state] < breaksBefore[other];
         }
 
-        private void keepRow(Setting target) {
-            int last = target.breaks.last;
+        private void keepRow(Setting setting) {
+            int last = setting.breaks.last;
             int grade = bestGrade(last);
             if (grade < 0) {
                 return;
             }
-            target.totalCost = costs[last * GRADES + grade];
-            target.lineCount = linesTo(last, grade);
+            setting.totalCost = costs[last * GRADES + grade];
+            setting.lineCount = linesTo(last, grade);
             int b = last;
-            for (int j = target.lineCount - 1; j >= 0; j--) {
+            for (int j = setting.lineCount - 1; j >= 0; j--) {
                 int state = b * GRADES + grade;
                 int stateBefore = breaksBefore[state] * GRADES + gradesBefore[state];
-                target.lineEnds[j] = b;
-                target.lineCosts[j] = costs[state] - costs[stateBefore];
+                setting.lineEnds[j] = b;
+                setting.lineCosts[j] = costs[state] - costs[stateBefore];
                 b = breaksBefore[state];
                 grade = gradesBefore[state];
             }

@@ -103,14 +103,14 @@ final class Check {
 
     static String out(LineSetter x) {
         StringBuilder text = new StringBuilder();
-        for (int i = 0; i < x.count(1); i++) {
-            text.append((char) (x.word(i) >>> 56));
+        int length = x.count(1);
+        for (int i = 0; i < length; i += 8) {
+            long eight = x.word(i);
+            for (int k = i; k < i + 8 && k < length; k++) {
+                text.append((char) (eight >>> 8 * (7 - k + i) & 255));
+            }
         }
         return text.toString();
-    }
-
-    static String repeat(String text, int times) {
-        return text.repeat(times);
     }
 
     /** Ends the test as .ci/run wants it. */
