@@ -1542,8 +1542,11 @@ public final class LineSetter {
          * different CLASSES before it, and so different BREAKS ahead of that.
          */
         private boolean isBetter(int state, long cost, int grade) {
-            if (costs[state] == NOT_REACHED || cost != costs[state]) {
-                return costs[state] == NOT_REACHED || cost < costs[state];
+            if (costs[state] == NOT_REACHED || cost < costs[state]) {
+                return true;
+            }
+            if (cost > costs[state]) {
+                return false;
             }
             int rival = line.from * GRADES + gradesBefore[state];
             return breaksBefore[state] == line.from

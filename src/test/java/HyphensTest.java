@@ -47,6 +47,7 @@ public final class HyphensTest {
         parted("ends 11 a1b a2b", "ab", "ab");
         parted("ends 11 a2b a1b", "ab", "a-b");
         parted("ends 11 a1b", "ABaBAb", "A-Ba-BA-b");
+        parted("ends 11 y1z", "YZyZ", "Y-Zy-Z");
         parted("ends 11 a1b2c3d4e5f6g7h8i9j0k1l", "abcdefghijkl", "a-bc-de-fg-hi-jk-l");
         parted("ends 11 .1a1b1c1d1e1f1g1h1i1j1k1l1.", "abcdefghijkl", "a-b-c-d-e-f-g-h-i-j-k-l");
         parted("ends 11 abcdefghijkl1", "abcdefghijklm", "abcdefghijkl-m");
@@ -105,6 +106,10 @@ public final class HyphensTest {
         broken("ends 01", 5);
         broken("ends 10", 5);
         broken("ends 1 1", 5);
+        broken("ends 1:", 5);
+        broken("ends :1", 5);
+        broken("ends 1/", 5);
+        broken("ends /1", 5);
         broken("ends ends", 5);
         broken("ends \0\0", 5);
         broken("ab 11", 3);

@@ -89,9 +89,26 @@ public final class ParagraphTest {
         LineSetter y = new LineSetter();
         Check.refuses("4001 bytes at once", () -> Check.run(y, much + "bbb", 1000), Check.IOOBE);
         Check.answers("nothing of them stays", () -> y.count(2), 0);
+        Check.answers("4000 bytes at once", () -> Check.run(y, much + "bb", 1000), 4000);
+        innerBlanks();
         LineSetter z = new LineSetter();
         String many = " ".repeat(1000) + much + " ".repeat(1000) + "b" + " ".repeat(1000);
         Check.answers("blanks that are none", () -> Check.run(z, many, 1000), 4000);
+    }
+
+    private static void innerBlanks() {
+        LineSetter x = new LineSetter();
+        Check.run(x, "a".repeat(3996), 1000);
+        Check.refuses("4001 bytes with blanks", () -> Check.run(x, " b  b", 1000) + Check.run(x, "b", 1000), Check.IOOBE);
+        Check.answers("4000 bytes with blanks", () -> x.count(2), 4000);
+        LineSetter y = new LineSetter();
+        Check.run(y, "a".repeat(3999), 1000);
+        Check.refuses("a blank that is followed counts", () -> Check.run(y, " b", 1000), Check.IOOBE);
+        Check.answers("a blank at the end does not", () -> Check.run(y, " ", 1000), 3999);
+        Check.refuses("until it is followed", () -> Check.run(y, "b", 1000), Check.IOOBE);
+        LineSetter z = new LineSetter();
+        Check.run(z, "a".repeat(3996), 1000);
+        Check.answers("one blank is one byte more", () -> Check.run(z, " bbb", 1000), 4000);
     }
 
     private static void clears() {

@@ -11,6 +11,8 @@ public final class SettingTest {
         hyphens();
         dashes();
         hyphensInRows();
+        longRows();
+        hyphenTooLong();
         partWidths();
         gluesAndSizes();
         classes();
@@ -74,6 +76,11 @@ public final class SettingTest {
         x.set(3334, 0, 0, 0, 10000);
         line("shrunk by all", x, 0, 0, 2, -1000, 3500, 0, 110 * 110, 2, 100);
         Check.answers("moved back by all", () -> x.spot(0, 1), 1834);
+        LineSetter z = new LineSetter();
+        Check.font(z, "width \" \" 2997;");
+        Check.run(z, "a b", 1000);
+        z.set(3996, 0, 0, 0, 10000);
+        line("a little above a whole ratio", z, 0, 0, 2, -2, 3997, 0, 100, 2, 0);
         LineSetter y = of("a b c ddd");
         y.set(4300, 0, 0, 0, 10000);
         line("three glues", y, 0, 0, 4, -402, 4500, 0, 16 * 16, 4, 6);
@@ -119,6 +126,11 @@ public final class SettingTest {
         x.set(1500, 0, 0, 0, 10000);
         line("no stretch at all", x, 0, 0, 2, 100000, 1001, 0, 100210100, 2, 10000);
         Check.answers("no word is moved", () -> x.spot(0, 1), 501);
+        LineSetter y = new LineSetter();
+        Check.font(y, "width \" \" 2;");
+        Check.run(y, "a b cc", 1000);
+        y.set(1052, 0, 0, 0, 10000);
+        line("a stretch of 1", y, 0, 0, 2, 50000, 1002, 0, 100210100, 2, 10000);
     }
 
     private static void hyphens() {
@@ -187,13 +199,32 @@ public final class SettingTest {
         y.set(1000000, 0, 0, 1, 1);
         Check.answers("a row goes over two sizes, not over a blank", () -> y.told(2), 3);
         at("two sizes", y, 1, 1, 2, 1000, 0);
-        LineSetter z = of("a".repeat(3000));
-        Check.hyphens(z, "ends 99 aaaa1.");
-        z.set(1000000, 0, 0, 1, 1);
-        Check.answers("a long row", () -> z.told(2), 1);
-        Check.hyphens(z, "ends 92 aaaa1aa.");
-        z.set(1000000, 0, 0, 1, 1);
-        at("a long row", z, 1, 1, 2998);
+    }
+
+    private static void longRows() {
+        LineSetter x = of("a".repeat(4000));
+        Check.hyphens(x, "ends 99 aaaa1. aaaaaaaaaaaa");
+        x.set(1000000, 0, 0, 1, 1);
+        Check.answers("a row of 4000 letters", () -> x.told(2), 1);
+        Check.hyphens(x, "ends 92 aaaa1aa.");
+        x.set(1000000, 0, 0, 1, 1);
+        at("a row of 4000 letters", x, 1, 1, 3998);
+        LineSetter y = of("1".repeat(3500) + " aabb");
+        Check.hyphens(y, "ends 11 a1b");
+        y.set(1000000, 0, 0, 1, 1);
+        at("a row far behind", y, 2, 1, 3503);
+        LineSetter z = of("a".repeat(3999) + "-");
+        z.set(1000000, 0, 0, 0, 1);
+        Check.answers("a dash at the end of 4000 bytes", () -> z.told(2), 1);
+    }
+
+    private static void hyphenTooLong() {
+        LineSetter x = new LineSetter();
+        Check.font(x, "width \"q\" 0;");
+        Check.hyphens(x, "ends 11 b1q");
+        Check.run(x, "a bq", 1000);
+        x.set(1334, 0, 0, 1, 100);
+        told("too long by the - alone", x, 110 * 110, 100, 3, 1);
     }
 
     private static void partWidths() {
@@ -249,6 +280,15 @@ public final class SettingTest {
         Check.answers("cost behind it by width " + width, () -> x.line(1, 5), costBehind);
     }
 
+    /** Two lines "a p" and "a q": by the widths of p and q their ratios are 2000 - p below 0, else two thirds of it. */
+    private static void classesOfTwo(int p, int q, long cost) {
+        LineSetter x = new LineSetter();
+        Check.font(x, "width \"a\" 5000; width \" \" 3000; width \"p\" " + p + "; width \"q\" " + q + ";");
+        Check.run(x, "a p a q a", 1000);
+        x.set(10000, 0, 0, 0, 10000);
+        Check.answers("the classes of widths " + p + " and " + q, () -> Check.judge(x, 2, 4), cost);
+    }
+
     private static void classes() {
         firstOfTwo(3500, 0, 100, 100);
         firstOfTwo(3625, 500, 22 * 22, 100);
@@ -258,6 +298,15 @@ public final class SettingTest {
         firstOfTwo(3417, -500, 22 * 22, 100);
         firstOfTwo(3416, -507, 23 * 23, 100);
         firstOfTwo(3334, -1000, 110 * 110, 100);
+        classesOfTwo(2501, 1248, 22 * 22 + 22 * 22 + 100 + 10000);
+        classesOfTwo(2500, 1248, 22 * 22 + 22 * 22 + 100);
+        classesOfTwo(2501, 1250, 22 * 22 + 22 * 22 + 100);
+        classesOfTwo(2501, 500, 22 * 22 + 110 * 110 + 100 + 10000);
+        classesOfTwo(500, 2501, 22 * 22 + 110 * 110 + 100 + 10000);
+        classesOfTwo(498, 1250, 22 * 22 + 110 * 110 + 100 + 20000);
+        classesOfTwo(498, 1248, 22 * 22 + 110 * 110 + 100 + 10000);
+        classesOfTwo(500, 498, 110 * 110 + 110 * 110 + 100 + 10000);
+        classesOfTwo(498, 498, 110 * 110 + 110 * 110 + 100 + 20000);
         LineSetter x = of("aa bb ccc d eeeeee");
         x.set(2600, 0, 0, 0, 10000);
         line("class 1", x, 0, 0, 2, 400, 2500, 0, 16 * 16, 2, 6);

@@ -45,6 +45,8 @@ public final class TapeTest {
         Check.answers("409 feeds", () -> x.count(0), 8180);
         Check.refuses("8200 bytes", () -> x.feed(a, a, a, a, a), Check.IOOBE);
         Check.answers("a refused feed changes nothing", () -> x.count(0), 8180);
+        x.end(8173);
+        Check.refuses("8193 bytes", () -> x.feed(a, a, a, a, a), Check.IOOBE);
         x.end(8172);
         Check.answers("8192 bytes", () -> x.feed(a, a, a, a, a), 8192);
         Check.refuses("8212 bytes", () -> x.feed(a, a, a, a, a), Check.IOOBE);
