@@ -617,8 +617,11 @@ public final class LineSetter {
                 return false;
             }
             int number = takeNumber(GREATEST_NUMBER);
-            if (number < 0 || !takeSemicolon()) {
+            if (number < 0) {
                 return false;
+            }
+            if (!takeOne(SEMICOLON)) {
+                return breakHere();
             }
             font.tellWidth(b, number);
             return true;
@@ -641,8 +644,11 @@ public final class LineSetter {
             }
             boolean negative = mayBeNegative && takeOne(MINUS);
             int number = takeNumber(greatest);
-            if (number < 0 || !takeSemicolon()) {
+            if (number < 0) {
                 return false;
+            }
+            if (!takeOne(SEMICOLON)) {
+                return breakHere();
             }
             table.tell(first, second, negative ? -number : number);
             return true;
@@ -673,10 +679,6 @@ public final class LineSetter {
             }
             position++;
             return true;
-        }
-
-        private boolean takeSemicolon() {
-            return takeOne(SEMICOLON) || breakHere();
         }
 
         private int takeByte() {

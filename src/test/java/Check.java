@@ -14,15 +14,21 @@ final class Check {
 
     private static int wrong = 0;
     private static int checks = 0;
+    private static String sentence = "";
 
     private Check() {
+    }
+
+    /** The document's words that the next checks are about: told with each wrong answer. */
+    static void sentence(String words) {
+        sentence = "\"" + words + "\": ";
     }
 
     static void same(String what, Object got, Object due) {
         checks++;
         if (!Objects.equals(got, due)) {
             wrong++;
-            System.out.println(what + " answered " + got + ", due is " + due);
+            System.out.println(sentence + what + " answered " + got + ", due is " + due);
         }
     }
 
@@ -43,9 +49,14 @@ final class Check {
         }
     }
 
+    /** The last of 8192 bytes do not come in twenties: some are fed twice then. */
     static void feed(LineSetter x, byte[] bytes) {
         int before = x.count(0);
         for (int i = 0; i < bytes.length; i += 20) {
+            if (before + i + 20 > 8192) {
+                i = 8172 - before;
+                x.end(8172);
+            }
             int[] ints = new int[5];
             for (int k = 0; k < 20; k++) {
                 int b = i + k < bytes.length ? bytes[i + k] & 255 : 0;
