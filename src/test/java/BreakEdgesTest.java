@@ -331,23 +331,27 @@ public final class BreakEdgesTest {
         Twins.refused("set of nothing, something being set", BreakEdgesTest::cleared, x -> x.set(3000, 0, 0, 1, 100), Check.ISE);
     }
 
-    private static LineSetter crowded() {
+    private static LineSetter crowded(String text) {
         LineSetter x = Twins.busy();
         x.end(0);
-        Check.run(x, "-".repeat(600), 1000);
+        x.clear();
+        Check.run(x, text, 1000);
         return x;
     }
 
     private static void setTooManyBreaks() {
         Check.sentence("more than 600 BREAKS: what was SET stays");
-        LineSetter x = crowded();
-        String before = Twins.setting(x);
-        Check.refuses("set", () -> x.set(3000, 0, 0, 1, 100), Check.IOOBE);
-        Check.same("what was set", Twins.setting(x), before);
-        Check.answers("the paragraph", () -> x.count(2), 624);
-        Check.answers("the tape", () -> x.count(0), 0);
-        LineSetter y = crowded();
+        for (String text : new String[] {"-".repeat(601), "z ".repeat(601), "b".repeat(23) + "-".repeat(601)}) {
+            LineSetter x = crowded(text);
+            String before = Twins.setting(x);
+            Check.refuses("set", () -> x.set(3000, 0, 0, 1, 100), Check.IOOBE);
+            Check.same("what was set", Twins.setting(x), before);
+            Check.answers("the tape", () -> x.count(0), 0);
+            Check.answers("the place", x::place, -1);
+        }
+        LineSetter y = crowded("-".repeat(601));
         Check.outcome(() -> y.set(3000, 0, 0, 1, 100));
+        Check.answers("the paragraph", () -> y.count(2), 601);
         y.clear();
         Check.run(y, "a", 1000);
         Check.answers("a later set", () -> y.set(3000, 0, 0, 1, 100), 1);
@@ -409,10 +413,13 @@ public final class BreakEdgesTest {
         x.set(1000, 0, 0, 0, 1);
         Check.answers("all of no width", () -> x.told(4), 0);
         LineSetter y = of("aaaaaaaa");
+        y.set(1000, 0, 0, 0, 1);
         y.clear();
         Check.run(y, "a", 1000);
-        y.set(1000, 0, 0, 0, 1);
-        Check.answers("nothing of what was set before", () -> y.told(4), 500);
+        for (int i = 0; i < 2; i++) {
+            y.set(1000, 0, 0, 0, 1);
+            Check.answers("nothing of what was set before", () -> y.told(4), 500);
+        }
     }
 
     private static void toldOneLine() {

@@ -28,8 +28,13 @@ final class Check {
         checks++;
         if (!Objects.equals(got, due)) {
             wrong++;
-            System.out.println(sentence + what + " answered " + got + ", due is " + due);
+            System.out.println(sentence + shown(what) + " answered " + shown(got) + ", due is " + shown(due));
         }
+    }
+
+    private static String shown(Object answer) {
+        String text = String.valueOf(answer).replace('\n', '/');
+        return text.length() > 400 ? text.substring(0, 400) + " .." : text;
     }
 
     static void answers(String what, Call call, long due) {

@@ -55,6 +55,7 @@ public final class FaceTest {
             noStaticState(inside);
         }
         noStaticState(face);
+        languageBounds(face);
         Check.done("FaceTest");
     }
 
@@ -67,6 +68,34 @@ public final class FaceTest {
             text.append(" ").append(c.getSimpleName());
         }
         return text.toString();
+    }
+
+    /** The bounds of LANGUAGE.md's rules 1 and 11 that can be seen from outside. */
+    private static void languageBounds(Class<?> face) {
+        TreeSet<String> open = new TreeSet<>();
+        for (Method m : face.getMethods()) {
+            if (m.getDeclaringClass() == face) {
+                open.add(m.getName());
+            }
+        }
+        Check.same("at most twelve classes", face.getDeclaredClasses().length + 1 <= 12, true);
+        boundsOf(face, open);
+        for (Class<?> inside : face.getDeclaredClasses()) {
+            boundsOf(inside, open);
+        }
+    }
+
+    private static void boundsOf(Class<?> c, TreeSet<String> open) {
+        int fields = 0;
+        for (Field f : c.getDeclaredFields()) {
+            fields += Modifier.isStatic(f.getModifiers()) ? 0 : 1;
+        }
+        Check.same("at most twenty fields in " + c.getSimpleName(), fields <= 20, true);
+        for (Method m : c.getDeclaredMethods()) {
+            Check.same("at most seven parameters of " + m.getName(), m.getParameterCount() <= 7, true);
+            boolean hidden = Modifier.isPrivate(m.getModifiers());
+            Check.same("no private method is named " + m.getName(), hidden && open.contains(m.getName()), false);
+        }
     }
 
     private static void noStaticState(Class<?> c) {

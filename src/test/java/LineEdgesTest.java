@@ -14,6 +14,7 @@ public final class LineEdgesTest {
         ratioToTheEnd();
         ratioAbove();
         tooLong();
+        tooLongByTheHyphen();
         badness();
         classAheadOfTheFirst();
         classes();
@@ -118,6 +119,11 @@ public final class LineEdgesTest {
             Check.run(w, "aa b", 1000);
             w.set(1000, 0, a, 0, 1);
             Check.answers("the second line of " + align, () -> w.line(1, 2), 0);
+            LineSetter v = new LineSetter();
+            Check.run(v, "aa bb", 1000);
+            Check.answers("just, in one line", () -> v.set(2500, 0, 0, 0, 1), 1);
+            Check.answers("not just, it does not shrink", () -> v.set(2400, 0, a, 0, 10000), 2);
+            Check.answers("just again, it does", () -> v.set(2400, 0, 0, 0, 10000), 1);
         }
     }
 
@@ -233,6 +239,23 @@ public final class LineEdgesTest {
         Check.answers("N = L + 1", () -> y.line(0, 2), -1000);
         Check.answers("its badness", () -> y.line(0, 7), 10000);
         Check.answers("its N", () -> y.line(0, 3), 2000);
+    }
+
+    private static void tooLongByTheHyphen() {
+        Check.sentence("a line that is TOO LONG by the - at a HYPHEN alone does not keep a longer one out");
+        LineSetter x = new LineSetter();
+        Check.font(x, width('q', 0));
+        Check.hyphens(x, "ends 11 b1q");
+        Check.run(x, "a bq", 1000);
+        Check.answers("in one line", () -> x.set(1334, 0, 0, 1, 100), 1);
+        Check.answers("as the tolerance allows", () -> x.told(1), 100);
+        Check.answers("shrunk by all", () -> x.line(0, 2), -1000);
+        Check.answers("the - is too much", () -> Check.judge(x, 2), -1);
+        LineSetter y = new LineSetter();
+        Check.font(y, width('q', 0));
+        Check.hyphens(y, "ends 11 b1q");
+        Check.run(y, "abq", 1000);
+        Check.answers("also without a glue", () -> y.set(1000, 0, 0, 1, 1), 1);
     }
 
     private static void badness() {

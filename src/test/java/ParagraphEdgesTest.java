@@ -199,6 +199,8 @@ public final class ParagraphEdgesTest {
         LineSetter y = with("a".repeat(3998) + " ");
         Check.refuses("a waiting blank and two bytes", () -> Check.run(y, "bb", 1000), Check.IOOBE);
         Check.answers("a waiting blank and one byte", () -> Check.run(y, " b", 1000), 4000);
+        Check.answers("a blank behind the first byte", () -> with("a " + "b".repeat(3998)).count(2), 4000);
+        Check.refuses("and one byte more", () -> with("a " + "b".repeat(3999)).count(2), Check.IOOBE);
         LineSetter z = with("a".repeat(3997));
         Check.refuses("two blanks and two bytes", () -> Check.run(z, " b b", 1000), Check.IOOBE);
         Check.answers("two blanks are there, one at the end", () -> Check.run(z, " bb ", 1000), 4000);
@@ -249,6 +251,10 @@ public final class ParagraphEdgesTest {
         Check.same("the text", whole(x), "c");
         x.clear();
         Check.answers("blanks ahead are none again", () -> Check.run(x, " c", 1000), 1);
+        x.clear();
+        Check.answers("a blank between is one again", () -> Check.run(x, "d  e ", 1000), 3);
+        Check.same("the text", whole(x), "d e");
+        Check.answers("and one at the end waits again", () -> Check.run(x, "f", 1000), 5);
     }
 
     private static void placeOfTheLatest() {

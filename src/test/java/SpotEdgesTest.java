@@ -2,6 +2,7 @@
 public final class SpotEdgesTest {
     public static void main(String[] args) {
         stretched();
+        laterLines();
         stretchedWithoutStretch();
         shrunk();
         justFull();
@@ -48,6 +49,36 @@ public final class SpotEdgesTest {
             LineSetter x = three(n[0]);
             x.set(n[0], 0, 0, 0, 10000);
             spots("room " + n[0], x, 0, 0, 801 + n[1], 1903 + n[2]);
+        }
+    }
+
+    /** c, then "a a a" of three, then c: the glues ahead of a line do not count in it. */
+    private static LineSetter later(int room) {
+        LineSetter x = new LineSetter();
+        Check.font(x, "width\" \"301;width\"c\"" + room + ";");
+        Check.run(x, "c a ", 1000);
+        Check.run(x, "a", 1000);
+        Check.run(x, " ", 2000);
+        Check.run(x, "a ", 1000);
+        Check.run(x, "c c", 1000);
+        return x;
+    }
+
+    private static void laterLines() {
+        Check.sentence("its first j GLUES: of a line behind others");
+        for (int room : new int[] {2503, 2403, 2303}) {
+            int by = room - 2403;
+            LineSetter x = later(room);
+            for (int align = 0; align < 4; align++) {
+                x.set(room, 0, align, 0, 10000);
+                if (align == 0) {
+                    spots("room " + room, x, 1, 0, 801 + (by < 0 ? by * 100 / 300 : by * 150 / 451), 1903 + by);
+                } else if (by >= 0) {
+                    long left = align == 1 ? 0 : align == 2 ? by : by / 2;
+                    spots("room " + room + ", align " + align, x, 1, left, left + 801, left + 1903);
+                }
+                spots("the line ahead", x, 0, 0);
+            }
         }
     }
 
