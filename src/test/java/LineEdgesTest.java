@@ -480,6 +480,13 @@ public final class LineEdgesTest {
         Check.answers("break 3", () -> Check.judge(x, 3), 200);
         Check.answers("is the least", () -> x.line(0, 1), 1);
         Check.answers("of two lines", () -> x.told(3), 2);
+        LineSetter y = new LineSetter();
+        Check.font(y, width('p', 499) + width('m', 1) + width('e', 998) + width(' ', 1));
+        Check.run(y, "p m e", 10000);
+        y.set(ROOM + 20, 0, 1, 0, 10000);
+        Check.answers("break 1, behind a line of class 2", () -> Check.judge(y, 1), 22 * 22 + 100);
+        Check.answers("break 2, behind a line of class 1", () -> Check.judge(y, 2), 22 * 22 + 100);
+        Check.answers("is the least", () -> y.line(0, 1), 1);
     }
 
     private static void breakAheadOfTheLast() {
